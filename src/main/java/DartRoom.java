@@ -360,7 +360,7 @@ public final class DartRoom {
         }
         // The leading 1 of the scaled size stands where the exponent's lowest bit does.
         long bits = ((long) (exponent - 1) << 52) + (long) (size * 4503599627370496.0);
-        return x < 0.0 ? bits | Long.MIN_VALUE : bits;
+        return x < 0.0 ? bits | (1L << 63) : bits;
     }
 
     /** The values round the board, and what its beds count. */
@@ -582,13 +582,16 @@ public final class DartRoom {
         }
 
         private long rowsOf(int aim, int n, int d, long power) {
+            int[] landings = flights.landings;
+            int[] weights = flights.weights;
+            int base = aim * STEPS;
             long sum = 0;
             for (int i = 0; i < flights.count; i++) {
-                int rest = flights.after(n, flights.landings[aim * STEPS + i]);
+                int rest = flights.after(n, landings[base + i]);
                 if (rest == ENDED) {
-                    sum += flights.weights[i] * power;
+                    sum += weights[i] * power;
                 } else if (rest != BUST && d > 1) {
-                    sum += flights.weights[i] * most[cell(rest, d - 1)];
+                    sum += weights[i] * most[cell(rest, d - 1)];
                 }
             }
             return sum;
@@ -639,21 +642,25 @@ public final class DartRoom {
 
         /** Keeps the lost weight in lostNow beside its answer; 0.0 for an aim that is left out. */
         private double meanThrows(int aim, int n) {
+            int[] landings = flights.landings;
+            int[] weights = flights.weights;
+            int base = aim * STEPS;
             double sum = 0.0;
-            lostNow = 0;
+            int lostSum = 0;
             for (int i = 0; i < flights.count; i++) {
-                int landing = flights.landings[aim * STEPS + i];
+                int landing = landings[base + i];
                 int rest = flights.after(n, landing);
                 if (rest == BUST || landing == 0) {
-                    lostNow += flights.weights[i];
+                    lostSum += weights[i];
                 } else if (rest != ENDED) {
-                    if (aims[rest] == NONE) {
+                    if (hasNone(rest)) {
                         return 0.0;
                     }
-                    sum += flights.weights[i] * least[rest];
+                    sum += weights[i] * least[rest];
                 }
             }
-            int kept = flights.total - lostNow;
+            lostNow = lostSum;
+            int kept = flights.total - lostSum;
             return kept < 1 ? 0.0 : (flights.total + sum) / kept;
         }
     }
@@ -795,7 +802,7 @@ public final class DartRoom {
         }
 
         void draw() {
-            drawn = (drawn * 1103515245 + 12345) & Integer.MAX_VALUE;
+            drawn = (drawn * 1103515245 + 12345) & 0x7fffffff;
         }
 
         void take(int landed, int rest) {

@@ -80,11 +80,15 @@ final class PaperRoom {
         if (!in(s, 0, 19) || !in(t, 0, 19)) {
             return BAD;
         }
+        exchange(s, t);
+        changed();
+        return 1;
+    }
+
+    private void exchange(int s, int t) {
         int kept = values[s];
         values[s] = values[t];
         values[t] = kept;
-        changed();
-        return 1;
     }
 
     int value(int s) {
@@ -187,11 +191,11 @@ final class PaperRoom {
             for (int dr = -2; dr <= 2; dr++) {
                 for (int ds = -2; ds <= 2; ds++) {
                     long w = weight[dr + 2][ds + 2];
-                    int ring = landing(aim, dr, ds)[0];
-                    int v = counted(aim, dr, ds);
                     if (w == 0) {
                         continue;
                     }
+                    int ring = landing(aim, dr, ds)[0];
+                    int v = counted(aim, dr, ds);
                     if (ends(n, v, ring)) {
                         sum += w * power;
                     } else if (!bust(n, v, ring)) {
@@ -240,11 +244,11 @@ final class PaperRoom {
             for (int dr = -2; dr <= 2; dr++) {
                 for (int ds = -2; ds <= 2; ds++) {
                     double w = weight[dr + 2][ds + 2];
-                    int ring = landing(aim, dr, ds)[0];
-                    int v = counted(aim, dr, ds);
                     if (w == 0.0) {
                         continue;
                     }
+                    int ring = landing(aim, dr, ds)[0];
+                    int v = counted(aim, dr, ds);
                     if (v == 0 || bust(n, v, ring)) {
                         lost += w;
                     } else if (!ends(n, v, ring)) {
@@ -334,12 +338,12 @@ final class PaperRoom {
         int found = NONE;
         for (int s = 0; s < 20; s++) {
             for (int t = s + 1; t < 20; t++) {
-                swap(s, t);
+                exchange(s, t);
                 if (luck() > most) {
                     most = luck();
                     found = 32 * s + t;
                 }
-                swap(s, t);
+                exchange(s, t);
             }
         }
         return found;
