@@ -2,29 +2,19 @@
 public final class PromisesTest {
     private static final Check CHECK = new Check("PromisesTest");
     private static final int NONE = DartRoom.NONE, BAD = DartRoom.BAD, NO = DartRoom.NO;
-    private static final int LOW = Integer.MIN_VALUE, HIGH = Integer.MAX_VALUE;
-    private static final int[] FIRST = {20, 1, 18, 4, 13, 6, 10, 15, 2, 17, 3, 19, 7, 16, 8, 11, 14, 9, 12, 5};
+    private static final int LOW = Rooms.LOW, HIGH = Rooms.HIGH;
+    private static final int[] FIRST = Rooms.FIRST;
 
     private static void due(String call, long got, long want) {
         CHECK.due(call, got, want);
     }
 
     private static long bits(double x) {
-        return Double.doubleToRawLongBits(x);
+        return Rooms.bits(x);
     }
 
-    /** A room whose cloud has just these weights: dr, ds, v, dr, ds, v .. */
     private static DartRoom clouded(int... steps) {
-        DartRoom room = new DartRoom();
-        boolean middle = false;
-        for (int i = 0; i < steps.length; i += 3) {
-            room.cloud(steps[i], steps[i + 1], steps[i + 2]);
-            middle |= steps[i] == 0 && steps[i + 1] == 0;
-        }
-        if (!middle) {
-            room.cloud(0, 0, 0);
-        }
-        return room;
+        return Rooms.clouded(steps);
     }
 
     private static void newObject() {
@@ -215,9 +205,7 @@ public final class PromisesTest {
         room.cloud(0, 0, 200);
         due("10 weights multiply", room.ways(2, 3), 200L * 201 * 201 + 200 * 201 + 200);
         DartRoom wide = new DartRoom();
-        for (int step = 0; step < 25; step++) {
-            wide.cloud(step / 5 - 2, step % 5 - 2, 200);
-        }
+        Rooms.putFullCloud(wide);
         wide.rules(0);
         PaperRoom paper = new PaperRoom();
         for (int step = 0; step < 25; step++) {
