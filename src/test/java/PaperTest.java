@@ -12,6 +12,9 @@ public final class PaperTest {
     private final int wildOneIn;
     private DartRoom room = new DartRoom();
     private PaperRoom paper = new PaperRoom();
+    private final int[] weights = new int[25];
+    private int rule;
+    private int rounds = 0;
 
     private PaperTest(long seed) {
         random = new Random(seed);
@@ -114,19 +117,11 @@ public final class PaperTest {
 
     /** The whole tables of one cloud, which drawn calls would seldom look through. */
     private boolean sweep() {
-        int steps = 1 + random.nextInt(25);
-        for (int i = 0; i < steps; i++) {
-            int dr = random.nextInt(5) - 2;
-            int ds = random.nextInt(5) - 2;
-            int v = random.nextInt(random.nextBoolean() ? 4 : 201);
-            check.due("cloud", room.cloud(dr, ds, v), paper.cloud(dr, ds, v));
-        }
-        if (random.nextInt(3) == 0) {
-            check.due("cloud", room.cloud(0, 0, 0), paper.cloud(0, 0, 0));
-        }
-        int r = random.nextInt(2);
-        check.due("rules", room.rules(r), paper.rules(r));
+        drawCloud();
+        rule = random.nextInt(2);
+        changePaper();
         for (int n = 1; n <= 301; n++) {
+            renew();
             check.due("throwsOf(" + n + ")", room.throwsOf(n), paper.throwsOf(n));
             check.due("aimOf(" + n + ")", room.aimOf(n), paper.aimOf(n));
             for (int d = 1; d <= 3; d++) {
@@ -136,10 +131,46 @@ public final class PaperTest {
         }
         for (int a = 80; a >= 1; a--) {
             for (int b = 1; b <= 80; b++) {
+                renew();
                 check.due("wins(" + a + ", " + b + ")", room.wins(a, b), paper.wins(a, b));
             }
         }
         return check.clean();
+    }
+
+    /** Some clouds have great weights everywhere, some only a few small ones, some no middle. */
+    private void drawCloud() {
+        int steps = 1 + random.nextInt(25);
+        int most = random.nextBoolean() ? 4 : 201;
+        for (int i = 0; i < steps; i++) {
+            weights[random.nextInt(25)] = random.nextInt(most);
+        }
+        weights[12] = random.nextInt(3) == 0 ? 0 : 1 + random.nextInt(200);
+        weights[random.nextInt(25)] = 1 + random.nextInt(2);
+    }
+
+    /** The middle comes last, so that no cloud on the way has a sum of 0. */
+    private static int stepAt(int i) {
+        return i < 12 ? i : i < 24 ? i + 1 : 12;
+    }
+
+    private void changePaper() {
+        for (int i = 0; i < 25; i++) {
+            paper.cloud(stepAt(i) / 5 - 2, stepAt(i) % 5 - 2, weights[stepAt(i)]);
+        }
+        paper.rules(rule);
+    }
+
+    /** An object is used for 512 calls; the tables take more. */
+    private void renew() {
+        if (rounds % 40 == 0) {
+            room = new DartRoom();
+            for (int i = 0; i < 25; i++) {
+                room.cloud(stepAt(i) / 5 - 2, stepAt(i) % 5 - 2, weights[stepAt(i)]);
+            }
+            room.rules(rule);
+        }
+        rounds++;
     }
 
     public static void main(String[] args) {
